@@ -435,9 +435,19 @@ public final class FableIndex {
         return Integer.bitCount(set);
     }
 
-    /** The greatest number of a set, -1 of an empty one. */
+    /** The greatest number of a set of fables, -1 of an empty one. */
     private static int greatest(int set) {
-        return 31 - Integer.numberOfLeadingZeros(set);
+        for (int fable = FABLES - 1; fable >= 0; fable--) {
+            if (has(set, fable)) {
+                return fable;
+            }
+        }
+        return NONE;
+    }
+
+    /** The set of the smallest number alone; of an empty one, an empty one. */
+    private static int smallestAlone(int set) {
+        return set & -set;
     }
 
     /** The fables that are written down; the rows go by their numbers. */
@@ -609,7 +619,7 @@ public final class FableIndex {
             int refused = fables & ~allowed[valley];
             for (int fable = 0; fable < book.count; fable++) {
                 if (has(refused, fable) && !has(bannedMorals[valley], book.moral[fable])) {
-                    admitted |= Integer.lowestOneBit(book.variants[fable] & allowed[valley]);
+                    admitted |= smallestAlone(book.variants[fable] & allowed[valley]);
                 }
             }
             return admitted;
