@@ -5,10 +5,24 @@ final class Check {
         void make();
     }
 
+    private static String testing = "";
+    private static int tests = 0;
     private static int made = 0;
     private static int wrong = 0;
 
     private Check() {
+    }
+
+    /** A test of its own: each fault that it finds is told with its name. */
+    static void test(String name, Runnable body) {
+        tests++;
+        testing = name + ": ";
+        try {
+            body.run();
+        } catch (RuntimeException e) {
+            fault("ended early by " + e);
+        }
+        testing = "";
     }
 
     static void due(String call, long got, long want) {
@@ -46,14 +60,19 @@ final class Check {
 
     /** The call throws just this exception, none below it, and changes nothing. */
     private static void refused(FableIndex x, String call, Call it, Class<?> want) {
-        made++;
         long before = x.digest();
+        thrown(call, it, want);
+        if (x.digest() != before) {
+            fault(call + " changed something");
+        }
+    }
+
+    /** The call throws just this exception, none below it, and the class itself throws it. */
+    static void thrown(String call, Call it, Class<?> want) {
+        made++;
         String got = thrownBy(it);
         if (!got.equals(want.getName())) {
             fault(call + " threw " + got + ", due is " + want.getName());
-        }
-        if (x.digest() != before) {
-            fault(call + " changed something");
         }
     }
 
@@ -62,17 +81,20 @@ final class Check {
             it.make();
             return "nothing";
         } catch (RuntimeException e) {
-            return e.getClass().getName();
+            StackTraceElement[] at = e.getStackTrace();
+            boolean own = at.length > 0 && at[0].getClassName().startsWith("FableIndex");
+            return own ? e.getClass().getName() : e + " from outside the class";
         }
     }
 
     static void fault(String text) {
         wrong++;
-        System.out.println(text);
+        System.out.println(testing + text);
     }
 
     static void end() {
-        System.out.println(made + " calls checked, " + wrong + " wrong");
+        String named = tests == 0 ? "" : tests + " tests by name, ";
+        System.out.println(named + made + " calls checked, " + wrong + " wrong");
         if (wrong != 0) {
             System.exit(1);
         }

@@ -1,3 +1,4 @@
+import java.math.BigInteger;
 import java.util.ArrayDeque;
 import java.util.ArrayList;
 import java.util.Arrays;
@@ -423,6 +424,39 @@ final class PlainIndex {
             beasts += it.beasts.size();
         }
         return fables.isEmpty() ? 0 : beasts / (double) fables.size();
+    }
+
+    /** By numbers without an end, of which the 64 lowest bits are taken only when all is added. */
+    long digest() {
+        BigInteger d = BigInteger.valueOf(1861);
+        for (int number : numbers()) {
+            d = d.multiply(BigInteger.valueOf(31)).add(BigInteger.valueOf(number));
+        }
+        return d.longValue();
+    }
+
+    private List<Integer> numbers() {
+        List<Integer> numbers = new ArrayList<>(List.of(fables(), season(), tellings(), silenced(), favouriteMoral(),
+                favouriteBeast()));
+        for (int f = 0; f < fables(); f++) {
+            numbers.addAll(List.of(moralOf(f), beastsOf(f), homeOf(f), parentOf(f), variantsOf(f), valleysOf(f)));
+            for (int beast = 0; beast < 12; beast++) {
+                numbers.add(hasBeast(f, beast) ? 1 : 0);
+            }
+            for (int v = 0; v < 6; v++) {
+                numbers.add(isTold(f, v) ? 1 : 0);
+            }
+            for (int v = 0; v < 6; v++) {
+                numbers.add(isBanned(f, v) ? 1 : 0);
+            }
+        }
+        for (int v = 0; v < 6; v++) {
+            numbers.addAll(List.of(toldIn(v), allowedIn(v), bansOf(v)));
+            for (int w = 0; w < 6; w++) {
+                numbers.add(isOpen(v, w) ? 1 : 0);
+            }
+        }
+        return numbers;
     }
 
     /** What seasons change, to be put back behind a look at what would be. */
