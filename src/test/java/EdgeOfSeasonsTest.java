@@ -9,6 +9,7 @@ public final class EdgeOfSeasonsTest {
         overThePasses();
         notBeforeTheNextSeason();
         inItsPlace();
+        laterInItsPlace();
         noneInItsPlace();
         placeIsTakenOnce();
         thirdStep();
@@ -263,6 +264,23 @@ public final class EdgeOfSeasonsTest {
             }
             Check.due("passSeasons(1)", x.passSeasons(1), 2);
             Check.due("isTold(19, 4)", x.isTold(19, 4), true);
+        });
+    }
+
+    private static void laterInItsPlace() {
+        Check.test("Promise 10, step 2: a variant written down later comes later, and stays where the ban ends", () -> {
+            FableIndex x = Worlds.loose();
+            x.tell(2, 0);
+            x.turnPass(0, 1);
+            x.turnBeast(1, 5);
+            Check.due("passSeasons(1)", x.passSeasons(1), 1);
+            x.addVariant(2, 5, 6, 0);
+            Check.due("passSeasons(1) with a variant", x.passSeasons(1), 2);
+            Check.due("isTold(4, 1)", x.isTold(4, 1), true);
+            x.turnBeast(1, 5);
+            Check.due("passSeasons(1) without the ban", x.passSeasons(1), 4);
+            Check.due("isTold(2, 1)", x.isTold(2, 1), true);
+            Check.due("isTold(4, 1)", x.isTold(4, 1), true);
         });
     }
 

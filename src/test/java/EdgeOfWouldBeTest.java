@@ -9,6 +9,7 @@ public final class EdgeOfWouldBeTest {
         tellingsAfter();
         bestPassNone();
         bestPassOfSeveral();
+        bestPassBrings();
         bestPassSeasons();
         nothingIsChanged();
         meanBeasts();
@@ -106,6 +107,11 @@ public final class EdgeOfWouldBeTest {
                 Check.due("tellingsAfter(" + seasons + ")", x.tellingsAfter(seasons), due);
             }
         });
+        Check.test("Promise 36: fewer than now, where some would be silenced", () -> {
+            FableIndex x = soonSilenced();
+            Check.due("tellingsAfter(1)", x.tellingsAfter(1), 1);
+            Check.due("tellings(), now", x.tellings(), 3);
+        });
         Check.test("Promise 36: the fortieth season counts", () -> {
             FableIndex x = EdgeOfSeasonsTest.farReaching();
             int before = x.tellingsAfter(39);
@@ -196,12 +202,41 @@ public final class EdgeOfWouldBeTest {
             x.tell(2, 1);
             Check.due("bestPass(1), three go over 1 to 4", x.bestPass(1), 6 + 4);
         });
+    }
+
+    private static void bestPassBrings() {
+        Check.test("Promise 37: a pass over which but a variant comes, in its place, counts", () -> {
+            FableIndex x = Worlds.loose();
+            x.addVariant(2, 5, 6, 0);
+            x.tell(2, 3);
+            for (int valley : new int[] {0, 1, 2, 4, 5}) {
+                x.turnBeast(valley, 5);
+                if (valley != 5) {
+                    x.turnBeast(valley, 6);
+                }
+            }
+            Check.due("bestPass(1)", x.bestPass(1), 6 * 3 + 5);
+            Check.due("bestPass(20)", x.bestPass(20), 6 * 3 + 5);
+        });
+        Check.test("Promise 37: more than without it are enough, though they are fewer than now", () ->
+                Check.due("bestPass(1)", soonSilenced().bestPass(1), 1));
         Check.test("Promise 37: passes that are open are not the best", () -> {
             FableIndex x = Worlds.loose();
             x.tell(2, 0);
             x.turnPass(0, 1);
             Check.due("bestPass(1), 0 to 2", x.bestPass(1), 2);
         });
+    }
+
+    /** Of three tellings two are of a fable that is banned there. */
+    private static FableIndex soonSilenced() {
+        FableIndex x = Worlds.loose();
+        x.tell(2, 0);
+        x.tell(1, 1);
+        x.tell(1, 2);
+        x.turnMoral(1, 9);
+        x.turnMoral(2, 9);
+        return x;
     }
 
     /** A fable is told in one valley, and not banned there and in another one alone. */

@@ -1,8 +1,6 @@
-import java.lang.reflect.InvocationTargetException;
 import java.lang.reflect.Method;
 import java.lang.reflect.Modifier;
 import java.util.ArrayList;
-import java.util.Arrays;
 import java.util.Comparator;
 import java.util.List;
 import java.util.Random;
@@ -10,9 +8,8 @@ import java.util.Random;
 /** Runs of 512 calls, by a seed that stays, on the class and on the plain telling of the document. */
 public final class RandomRunsTest {
     private static final int RUNS = 300;
-    private static final int CALLS = 512;
-    /** From here on a run only asks, so that what the calls before it have done is looked at from all sides. */
-    private static final int FIRST_OF_QUESTIONS = 330;
+    /** So many calls at its end only ask, so that what the calls before have done is looked at from all sides. */
+    private static final int QUESTIONS = 182;
 
     private RandomRunsTest() {
     }
@@ -40,23 +37,16 @@ public final class RandomRunsTest {
 
     private static void run(int seed, List<Method> calls) throws ReflectiveOperationException {
         Random random = new Random(seed);
-        FableIndex x = new FableIndex();
-        PlainIndex plain = new PlainIndex();
-        Method digest = FableIndex.class.getDeclaredMethod("digest");
+        Both both = new Both("run " + seed);
         int oneIn = seed % 4 == 0 ? 4 : 24;
         Object last = null;
-        for (int n = 0; n < CALLS; n++) {
-            // Behind a call that was refused all must be as before.
-            Method call = last instanceof Class ? digest : pick(random, calls, n >= FIRST_OF_QUESTIONS);
-            Object[] with = with(random, call, oneIn);
-            last = answer(call, x, with);
-            Method due = PlainIndex.class.getDeclaredMethod(call.getName(), call.getParameterTypes());
-            Object want = answer(due, plain, with);
-            String text = "run " + seed + ", call " + n + ": " + call.getName() + Arrays.toString(with);
-            Check.due(text + " answers as is due", last.equals(want), true);
-            if (!last.equals(want)) {
-                Check.fault(text + " answered " + last + ", due is " + want);
-                return;
+        while (both.left() > 0) {
+            if (last instanceof Class) {
+                // Behind a call that was refused all must be as before.
+                last = both.call("digest");
+            } else {
+                Method call = pick(random, calls, both.left() <= QUESTIONS);
+                last = both.call(call.getName(), with(random, call, oneIn));
             }
         }
     }
@@ -95,14 +85,5 @@ public final class RandomRunsTest {
             }
         }
         return with;
-    }
-
-    /** The answer, or the class of the exception. */
-    private static Object answer(Method call, Object of, Object[] with) throws IllegalAccessException {
-        try {
-            return call.invoke(of, with);
-        } catch (InvocationTargetException e) {
-            return e.getCause().getClass();
-        }
     }
 }
